@@ -158,6 +158,7 @@ public final class ShaftLoom {
         if (!isThread(thread)) {
             throw new IndexOutOfBoundsException("no such thread");
         }
+        // lines are written from the ends' side: a pick is seen on the front where its line has no bit
         if (isPick(thread)) {
             return longestStretch(cloth.line(true, thread - FIRST_PICK), cloth.ends, back);
         }
@@ -265,7 +266,7 @@ public final class ShaftLoom {
         return raised;
     }
 
-    /** The longest stretch of neighbouring bits that are all set (or, if not wanted so, all not set). */
+    /** The longest stretch of neighbouring bits, of the lowest so many, that are all set or all not set. */
     private static int longestStretch(int bits, int count, boolean set) {
         int wanted = set ? 1 : 0;
         int best = 0;

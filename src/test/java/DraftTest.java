@@ -70,7 +70,10 @@ public final class DraftTest {
         Looms.dueRow(checks, woven, true, 0, 1);
         checks.due("run of the treadling, woven", woven.run(false, 3, 3), 4);
         Looms.dueRow(checks, woven, false, 0, 1, 2, 3);
-        woven.unweave(2);
+        woven.unweave(1);
+        checks.state("run of the warp, one woven", () -> woven.run(true, 0, 0));
+        checks.state("warp again, one woven", () -> woven.again(true, 1, 1, false));
+        woven.unweave(1);
         checks.due("run of the warp, no more woven", woven.run(true, 5, 5), 3);
     }
 
@@ -174,6 +177,7 @@ public final class DraftTest {
         checks.due("woven as before", woven.draft(5, 0, 0), 2);
         woven.unweave(1);
         checks.due("clear of the treadling, one off", woven.clear(false), 1);
+        checks.state("clear of the threading, one woven", () -> woven.clear(true));
         woven.unweave(1);
         checks.due("clear of the threading, all off", woven.clear(true), 0);
         checks.due("clear of the treadling, all off", woven.clear(false), 0);
