@@ -140,9 +140,9 @@ public final class DraftTest {
             checks.argument("times below 0", () -> loom.again(warp, 1, -1, false));
             checks.argument("times far below 0", () -> loom.again(warp, 2, Integer.MIN_VALUE, false));
             checks.state("times far off", () -> loom.again(warp, 1, Integer.MAX_VALUE, false));
-            // 2 times this is 0 in an int, 3 times the next one is 1
-            checks.state("times that wrap to 0", () -> loom.again(warp, 2, 1 << 30, false));
-            checks.state("times that wrap below 0", () -> loom.again(warp, 3, 1431655765, false));
+            // 2 times the one is the least int, 3 times the other one is -1
+            checks.state("times that wrap far below 0", () -> loom.again(warp, 2, 1 << 30, false));
+            checks.state("times that wrap to -1", () -> loom.again(warp, 3, 1431655765, false));
             Looms.dueRow(checks, loom, warp, 0, 1, 2);
         }
         ShaftLoom woven = woven();

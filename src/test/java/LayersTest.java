@@ -96,20 +96,14 @@ public final class LayersTest {
     }
 
     private static void widest() {
-        String[] plain = new String[30];
-        for (int end = 0; end < 30; end++) {
-            plain[end] = (end % 2 == 0 ? "#." : ".#").repeat(15);
-        }
-        dueLayers(Looms.woven(plain), new int[30], new int[30]);
-        String[] apart = new String[30];
+        dueLayers(Looms.plainWeave(30, 30), new int[30], new int[30]);
         int[] endsDue = new int[30];
         int[] picksDue = new int[30];
         for (int i = 0; i < 30; i++) {
-            apart[i] = "#".repeat(30);
             endsDue[i] = 30 + i;
             picksDue[i] = i;
         }
-        dueLayers(Looms.woven(apart), endsDue, picksDue);
+        dueLayers(Looms.flat(30, 30, true), endsDue, picksDue);
     }
 
     private static void dueLayers(ShaftLoom loom, int[] ends, int[] picks) {

@@ -41,6 +41,8 @@ public final class PlainLoomTest {
         return lot.nextBoolean();
     }
 
+    // what is there is asked of the plain loom, since each call of the other one counts to its 512
+
     /** A number from 0 on, mostly below a bound, now and then at it or far off. */
     private int number(int bound) {
         int draw = lot.nextInt(40);
@@ -51,8 +53,8 @@ public final class PlainLoomTest {
     }
 
     private int thread() {
-        int ends = Math.max(1, loom.draft(3, 0, 0));
-        int picks = Math.max(1, loom.draft(5, 0, 0));
+        int ends = Math.max(1, plain.draft(3, 0, 0));
+        int picks = Math.max(1, plain.draft(5, 0, 0));
         return flip() ? number(ends) : 100 + number(picks);
     }
 
@@ -67,7 +69,7 @@ public final class PlainLoomTest {
                 return both(() -> loom.run(warp, from, to), () -> plain.run(warp, from, to));
             }
             case 1: {
-                int m = 1 + number(Math.max(1, loom.draft(warp ? 3 : 4, 0, 0)));
+                int m = 1 + number(Math.max(1, plain.draft(warp ? 3 : 4, 0, 0)));
                 int n = number(4) - (lot.nextInt(30) == 0 ? 1 : 0);
                 boolean turned = flip();
                 call = "again(" + warp + ", " + m + ", " + n + ", " + turned + ")";
@@ -98,7 +100,7 @@ public final class PlainLoomTest {
                 return both(() -> loom.weave(n), () -> plain.weave(n));
             }
             case 8: {
-                int n = flip() ? loom.draft(5, 0, 0) : number(6);
+                int n = flip() ? plain.draft(5, 0, 0) : number(6);
                 call = "unweave(" + n + ")";
                 return both(() -> unwoven(n), () -> plain.unweave(n));
             }
@@ -127,8 +129,8 @@ public final class PlainLoomTest {
     }
 
     private long[] askedOfCloth() {
-        int end = number(loom.draft(3, 0, 0));
-        int pick = number(loom.draft(5, 0, 0));
+        int end = number(plain.draft(3, 0, 0));
+        int pick = number(plain.draft(5, 0, 0));
         int thread = thread();
         boolean back = flip();
         switch (lot.nextInt(7)) {
