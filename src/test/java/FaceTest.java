@@ -2,10 +2,15 @@ import java.lang.reflect.Constructor;
 import java.lang.reflect.Field;
 import java.lang.reflect.Method;
 import java.lang.reflect.Modifier;
+import java.util.ArrayList;
 import java.util.Arrays;
+import java.util.List;
 import java.util.TreeSet;
 
-/** The public face is the document's, with no member more or less. */
+/**
+ * The public face is the document's, with no member more or less; and of LANGUAGE.md what can be seen
+ * in the compiled class: rules 1, 2, 5 and 11.
+ */
 public final class FaceTest {
     private static final String[] FACE = {
         "boolean paint(int,int,boolean) IndexOutOfBoundsException",
@@ -36,6 +41,9 @@ public final class FaceTest {
         checks.due("constructors", visibleConstructors().toString(), "[public ShaftLoom()]");
         checks.due("NONE", ShaftLoom.NONE, -1);
         checks.due("private methods with a public name", privateNamesakes().toString(), "[]");
+        checks.due("classes inside that are open or not static", looseClasses().toString(), "[]");
+        checks.due("static fields that are not final", changingStatics().toString(), "[]");
+        checks.due("too many classes, fields or parameters", tooMany().toString(), "[]");
         checks.end();
     }
 
@@ -98,5 +106,65 @@ public final class FaceTest {
                 found.add(type.getSimpleName() + "." + method.getName());
             }
         }
+    }
+
+    private static TreeSet<String> looseClasses() {
+        TreeSet<String> found = new TreeSet<>();
+        for (Class<?> inside : ShaftLoom.class.getDeclaredClasses()) {
+            int modifiers = inside.getModifiers();
+            boolean open = Modifier.isPublic(modifiers) || Modifier.isProtected(modifiers);
+            if (open || !Modifier.isStatic(modifiers)) {
+                found.add(inside.getSimpleName());
+            }
+        }
+        return found;
+    }
+
+    private static TreeSet<String> changingStatics() {
+        TreeSet<String> found = new TreeSet<>();
+        for (Class<?> type : allClasses()) {
+            for (Field field : type.getDeclaredFields()) {
+                int modifiers = field.getModifiers();
+                if (Modifier.isStatic(modifiers) && !Modifier.isFinal(modifiers)) {
+                    found.add(type.getSimpleName() + "." + field.getName());
+                }
+            }
+        }
+        return found;
+    }
+
+    private static TreeSet<String> tooMany() {
+        TreeSet<String> found = new TreeSet<>();
+        if (allClasses().size() > 12) {
+            found.add("classes");
+        }
+        for (Class<?> type : allClasses()) {
+            if (heldBy(type) > 20) {
+                found.add("fields of " + type.getSimpleName());
+            }
+            for (Method method : type.getDeclaredMethods()) {
+                if (method.getParameterCount() > 7) {
+                    found.add("parameters of " + type.getSimpleName() + "." + method.getName());
+                }
+            }
+        }
+        return found;
+    }
+
+    private static int heldBy(Class<?> type) {
+        int fields = 0;
+        for (Field field : type.getDeclaredFields()) {
+            if (!Modifier.isStatic(field.getModifiers())) {
+                fields++;
+            }
+        }
+        return fields;
+    }
+
+    private static List<Class<?>> allClasses() {
+        List<Class<?>> all = new ArrayList<>();
+        all.add(ShaftLoom.class);
+        all.addAll(Arrays.asList(ShaftLoom.class.getDeclaredClasses()));
+        return all;
     }
 }
